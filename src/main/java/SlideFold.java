@@ -900,7 +900,7 @@ public final class SlideFold {
             int number = fold.number(what);
             for (int r = 2; r <= rows && number != NOTHING; r++) {
                 int rest = partedSum[r - 1][next];
-                if (rest != NOTHING && (partedSum[r][from] == NOTHING || number + rest > partedSum[r][from])) {
+                if (rest != NOTHING && number + rest > partedSum[r][from]) {
                     partedSum[r][from] = number + rest;
                     partedNext[r][from] = next;
                 }

@@ -49,7 +49,19 @@ public final class LaneTest {
 
     private static void openAnew() {
         SlideFold x = Lanes.timed(3, 5, 10, 1, 8, 2, 3, 9, 12, 4);
+        Lanes.add(x, 0, 1, 1, 1, 1, 1, 1);
         x.leave(0, 1);
+        x.come(0, x.lane(0, 5) - 1, 3);
+        x.burst(0, 12, 1, 0);
+        Due.is("a flip goes on", x.state(0, 3) > 0, true);
+        Due.is("the latest one placed ahead, then behind", x.lane(0, 9), 0);
+        x.open(1, 3, Lanes.HAND, 0, 5);
+        Lanes.addTimed(x, 1, 10, 1, 8, 2);
+        Due.is("ahead of one", x.lane(1, 9), 1);
+        x.open(1, 3, Lanes.HAND, 0, 5);
+        Due.is("anew", x.lane(1, 9), 0);
+        Due.are("anew", Lanes.state(x, 1), 0, 0, 0, 0, 0, 0, 0);
+        x.shut(1);
         Due.is("anew", x.open(0, 2, 2, 40, 6), 1);
         Due.are("all anew", Lanes.lane(x, 0), 2, 2, 40, 6, 0, -1, 0, 0, 0, 0, 0);
         Due.are("all anew", Lanes.state(x, 0), 0, 0, 0, 0, 0, 0, 0);
@@ -321,9 +333,24 @@ public final class LaneTest {
         Due.are("values", Lanes.values(x, 0), 2, 4);
         Due.are("lane: none dropped", Lanes.lane(x, 0), 3, 0, 0, 0, 2, 4, 0, 5, 0, 0, 5);
         Due.are("state", Lanes.state(x, 0), 2, 0, 0, 0, 1, 10, 3);
+        takeOfMost();
         x.take(0, 0);
         Due.is("the last one", x.take(0, 0), 4);
         Due.is("of none", x.take(0, 0), Lanes.NOTHING);
+    }
+
+    private static void takeOfMost() {
+        SlideFold x = Lanes.of(3);
+        for (int i = 0; i < 3; i++) {
+            x.burst(0, 40, 40 * i, 1);
+        }
+        Due.is("far behind", x.take(0, 100), 100);
+        Due.is("the newest", x.take(0, 118), 119);
+        Due.is("the oldest", x.take(0, 0), 0);
+        Due.is("next to what was taken", x.take(0, 98), 99);
+        Due.is("next to what was taken", x.take(0, 98), 101);
+        Due.is("held", x.lane(0, 4), 115);
+        Due.is("the newest now", x.event(0, 114, 1), 118);
     }
 
     private static void alter() {

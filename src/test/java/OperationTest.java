@@ -127,6 +127,8 @@ public final class OperationTest {
         long nothing = Lanes.NOTHING;
         are("zero", 8, row(0), nothing, nothing, 1);
         are("above", 8, row(1000), 1000, nothing, 0);
+        are("1", 8, row(1), 1, nothing, 0);
+        are("-1", 8, row(-1), nothing, -1, 0);
         are("below", 8, row(-1000), nothing, -1000, 0);
         are("some", 8, row(5, -3, 0, 2, -9, 7, 0, -1, 2), 2, -1, 2);
     }
@@ -334,6 +336,11 @@ public final class OperationTest {
         Due.is("other values, times, same numbers", x.same(0, 1), 1);
         Lanes.addTimed(x, 2, 50, 3, 60, -4, 61, 3);
         Due.is("the last number alone is another", x.same(1, 2), 0);
+        x.open(3, 0, Lanes.HAND, 0, 0);
+        x.open(2, 0, Lanes.HAND, 0, 0);
+        Lanes.add(x, 3, 5);
+        Lanes.add(x, 2, 6);
+        Due.is("the first number alone is another", x.same(2, 3), 0);
         x.open(3, 7, Lanes.HAND, 0, 0);
         Due.is("another operation", x.same(0, 3), -1);
         x.shut(3);

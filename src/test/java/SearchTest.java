@@ -269,7 +269,25 @@ public final class SearchTest {
         Due.are("too few", parts(Lanes.of(0, 1, 2, 3), 4, 0), none, none, none, none, none);
         Due.are("just enough", parts(Lanes.of(0, 1, 2, 3, 4), 4, 0), 10, 0, 1, 2, 3);
         Due.are("of none", parts(Lanes.of(0), 1, 0), none, none);
+        partedOfMost();
         partedWrong(x);
+    }
+
+    private static void partedOfMost() {
+        SlideFold x = Lanes.of(3);
+        for (int i = 0; i < 3; i++) {
+            x.burst(0, 40, 1, 0);
+        }
+        Due.are("120", parts(x, 4, 1), 120, 0, 1, 2, 3);
+        x.alter(0, 119, 1000);
+        Due.are("the greatest, alone or not", parts(x, 2, 0), 1119, 0, 1);
+        x.open(0, 0, Lanes.HAND, 0, 0);
+        x.burst(0, 40, -39, 1);
+        x.burst(0, 40, 0, 0);
+        x.burst(0, 40, 1, 1);
+        Due.are("the greatest ones, each alone", parts(x, 4, 0), 40 + 39 + 38 + 37, 0, 117, 118, 119);
+        Due.are("-1 is a sum", parts(Lanes.of(3, -1, 0, 0), 2, 1), -1, 0, 1);
+        Due.are("-1 is a sum, not the most", parts(Lanes.of(0, -1, -2, 0, -3), 2, 0), -1, 0, 1);
     }
 
     private static void partedWrong(SlideFold x) {

@@ -158,6 +158,8 @@ public final class StateTest {
             Due.is(i + " held: ends", x.soon(0, 1), ends[i]);
             x.come(0, i, 1);
         }
+        Due.is("what 2, a flip goes on", x.soon(0, 2), -1);
+        Due.is("what -1, a flip goes on", x.soon(0, -1), -1);
         x.alter(0, 0, 2);
         Due.is("laid anew: begins", x.soon(0, 0), 17);
         Due.is("laid anew: ends", x.soon(0, 1), -1);

@@ -106,6 +106,9 @@ public final class TableTest {
         Due.is("a box alone", x.table(5, 2), false);
         x.open(0, 8, Lanes.HAND, 0, 0);
         x.keep(0, 2);
+        x.open(0, 9, Lanes.HAND, 0, 0);
+        Due.is("lane 0", x.table(5, 2), false);
+        x.shut(0);
         Due.is("no more", x.table(5, 2), true);
         Due.is("done", x.element(2), 3);
     }
@@ -121,6 +124,11 @@ public final class TableTest {
             Due.is("letter(far, 0)", x.letter(far, 0), false);
             Due.is("letter(0, far)", x.letter(0, far), false);
         }
+        x.open(0, 4, Lanes.HAND, 0, 0);
+        Lanes.add(x, 0, 2, 5);
+        Due.are("to itself at first", Lanes.totals(x, 0, 5), 0, 1, 2, 3, 4);
+        Due.is("lane 0", x.letter(3, 141), false);
+        x.shut(0);
         // 2 0 3 1 by four: state 0 to 1, 1 to 3, 2 to 0, 3 to 2
         Due.is("letter(3, 141)", x.letter(3, 141), true);
         x.open(2, 4, Lanes.HAND, 0, 0);
@@ -158,6 +166,15 @@ public final class TableTest {
         x.table(5, 2);
         x.table(9, 3);
         Due.are("another", triples(x), 1, 1, 1, 63);
+        // 2 3 is 1, 1 0 is 3: 1 (y z) is 3 where y z is 0, (1 y) z is 0; 2 (1 0) is 1, (2 3) 0 is 3
+        x = new SlideFold();
+        x.table(11, 1);
+        x.table(4, 3);
+        Due.are("a third", triples(x), 1, 0, 0, 48);
+        // each the first one, but 3 3 is 2: (3 y) 3 is 2, 3 (y 3) is 3, the other way for y 3
+        x = left();
+        x.table(15, 2);
+        Due.are("a late one", triples(x), 3, 0, 3, 60);
         Due.is("triple(4)", x.triple(4), Lanes.NONE);
         for (int far : Lanes.FAR) {
             Due.is("triple(far)", x.triple(far), Lanes.NONE);

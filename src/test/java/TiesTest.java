@@ -4,6 +4,7 @@ public final class TiesTest {
         watch();
         rings();
         ringsWithinCalls();
+        eightWatches();
         rang();
         watchesEnd();
         link();
@@ -126,6 +127,19 @@ public final class TiesTest {
         x.watch(0, 0, 1, 0);
         x.come(0, 25, 3);
         Due.is("0 with all, -5 without the first, 4 without the next", x.rings(0), 2);
+    }
+
+    private static void eightWatches() {
+        Due.promise(40);
+        SlideFold x = Lanes.of(3);
+        for (int watch = 0; watch < 8; watch++) {
+            x.watch(watch, 0, 1, watch + 1);
+        }
+        Lanes.add(x, 0, 5);
+        for (int watch = 0; watch < 8; watch++) {
+            Due.is("all on one lane", x.rings(watch), watch < 5 ? 1 : 0);
+        }
+        Due.is("in all", x.about(5), 5);
     }
 
     private static void rang() {
@@ -374,6 +388,12 @@ public final class TiesTest {
         Due.is("what 4", x.linked(3, 4), -1);
         Due.is("none to", x.linked(1, 0), -1);
         Due.is("lane 4", x.linked(4, 0), -1);
+        x.link(2, 1, 19, 3);
+        x.unlink(2);
+        for (int what = 0; what < 4; what++) {
+            Due.is("none to", x.linked(0, what), -1);
+            Due.is("no more", x.linked(2, what), -1);
+        }
         for (int far : Lanes.FAR) {
             Due.is("what far", x.linked(3, far), -1);
             Due.is("lane far", x.linked(far, 0), -1);
@@ -438,6 +458,13 @@ public final class TiesTest {
         x.open(2, 6, Lanes.COUNT, 7, 100);
         Lanes.addTimed(x, 2, 10, 1, 20, 1, 20, 2, 30, 5, 15, 4, 40, 3, 50, 6, 60, 7, 70, 7);
         x.come(2, 71, 3);
+        x.come(2, 90, 3);
+        x.come(2, 191, 3);
+        x.come(2, 90, 3);
+        x.come(2, 191, 4);
+        x.come(2, 190, 4);
+        x.burst(2, 3, 1, 1);
+        Due.is("one was lost", x.lane(2, 6), 1);
         long[] lane = Lanes.lane(x, 2);
         long[] state = Lanes.state(x, 2);
         long[] values = Lanes.values(x, 2);

@@ -61,6 +61,11 @@ public final class TimesTest {
         Due.is("of six", x.fullest(0, 6), 0);
         Due.is("of 24", x.fullest(0, 24), 0);
         Due.is("a later one is fuller", Lanes.timed(3, 0, 1, 1, 10, 1, 11, 1).fullest(0, 10), 1);
+        Due.is("two are not more than two", Lanes.timed(3, 0, 11, 1, 12, 1, 25, 1, 26, 1).fullest(0, 10), 1);
+        Due.is("three are more than two", Lanes.timed(3, 0, 1, 1, 2, 1, 25, 1, 26, 1, 27, 1).fullest(0, 10), 2);
+        Due.is("three are not more than three",
+            Lanes.timed(3, 0, 1, 1, 2, 1, 3, 1, 25, 1, 26, 1, 27, 1).fullest(0, 10), 0);
+        Due.is("two are more than one", Lanes.timed(3, 0, 11, 1, 25, 1, 26, 1).fullest(0, 10), 2);
         Due.is("the last one", Lanes.timed(3, 0, 100000, 1).fullest(0, 1), 100000);
         Due.is("width 0", x.fullest(0, 0), -1);
         Due.is("width 100001", x.fullest(0, 100001), -1);
@@ -123,6 +128,12 @@ public final class TimesTest {
         Due.is("gap 1", x.longest(0, 1), 1);
         Due.is("of like ones the oldest", Lanes.timed(3, 0, 1, 1, 5, 1, 6, 1, 9, 1, 10, 1).longest(0, 1), 1);
         Due.is("the newest", Lanes.timed(3, 0, 1, 1, 5, 1, 6, 1, 9, 1, 10, 1, 11, 1).longest(0, 1), 2);
+        Due.is("two are not more than two", Lanes.timed(3, 0, 1, 1, 2, 1, 9, 1, 10, 1).longest(0, 1), 0);
+        Due.is("two are more than one", Lanes.timed(3, 0, 1, 1, 9, 1, 10, 1).longest(0, 1), 1);
+        Due.is("one is not more than one", Lanes.timed(3, 0, 1, 1, 9, 1).longest(0, 1), 0);
+        Due.is("three are more than two", Lanes.timed(3, 0, 1, 1, 2, 1, 9, 1, 10, 1, 11, 1).longest(0, 1), 1);
+        Due.is("three are not more than three",
+            Lanes.timed(3, 0, 1, 1, 2, 1, 3, 1, 9, 1, 10, 1, 11, 1).longest(0, 1), 0);
         Due.is("gap 100000", x.longest(0, 100000), 0);
         Due.is("gap 100001", x.longest(0, 100001), -1);
         Due.is("of none", Lanes.of(3).longest(0, 1), -1);
