@@ -80,6 +80,7 @@ public final class SearchTest {
         Due.is("of like ones the first", x.peakAt(0, 2, 1), 3);
         Due.is("all", x.peakAt(0, 8, 1), 0);
         Due.is("the last", Lanes.of(3, 1, 2, 3).peakAt(0, 2, 1), 1);
+        Due.is("held ones alone", Lanes.of(3, -5, -3).peakAt(0, 1, 1), 1);
         Due.is("more than all", x.peakAt(0, 9, 1), -1);
         Due.is("none", x.peakAt(0, 0, 1), -1);
         Due.is("number", x.peakAt(0, 1, 4), -1);
@@ -152,6 +153,9 @@ public final class SearchTest {
         Due.is("lane", x.shortest(1, 0, 5, 0), -1);
         Due.is("of none", Lanes.of(3).shortest(0, 1, Integer.MIN_VALUE, 0), -1);
         Due.is("NOTHING is none", Lanes.of(8, 0, -1, 3).shortest(0, 0, Integer.MIN_VALUE, 1), 2);
+        SlideFold taken = Lanes.of(3, -1, -1, 5);
+        taken.take(0, 2);
+        Due.is("held ones alone", taken.shortest(0, 1, 4, 0), -1);
         Due.is("a later one is shorter", Lanes.of(3, 3, 3, 6).shortest(0, 1, 6, 1), 2);
         for (int far : Lanes.FAR) {
             Due.is("k far", x.shortest(0, 1, 5, far), -1);

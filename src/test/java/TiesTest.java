@@ -464,7 +464,9 @@ public final class TiesTest {
         x.come(2, 191, 4);
         x.come(2, 190, 4);
         x.burst(2, 3, 1, 1);
+        x.come(2, 192, 8);
         Due.is("one was lost", x.lane(2, 6), 1);
+        Due.is("the latest one placed ahead of two", x.lane(2, 9), 2);
         long[] lane = Lanes.lane(x, 2);
         long[] state = Lanes.state(x, 2);
         long[] values = Lanes.values(x, 2);
