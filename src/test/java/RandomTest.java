@@ -8,6 +8,7 @@ import java.util.Comparator;
 import java.util.List;
 import java.util.Map;
 import java.util.Random;
+import java.util.Set;
 
 /**
  * All promises: runs of 512 calls that the class and the model have to answer alike. The runs are the same each time:
@@ -36,6 +37,8 @@ public final class RandomTest {
         Map.entry("rings", 6), Map.entry("rang", 6), Map.entry("linked", 4), Map.entry("total", 6),
         Map.entry("about", 6), Map.entry("table", 1), Map.entry("letter", 1), Map.entry("parted", 1));
 
+    private static final Set<String> ENDS = Set.of("open", "shut", "back", "unlink", "until", "leave", "link");
+
     private final Random random;
     private final SlideFold real = new SlideFold();
     private final Model model = new Model();
@@ -43,6 +46,9 @@ public final class RandomTest {
     private final int span;
     private final int lateness;
     private final int rush;
+    /** In some runs lanes, links and watches stand long, and few go. */
+    private final boolean calm;
+    private final int lanes;
     private int lane;
     private String call;
     private int made = 0;
@@ -52,6 +58,8 @@ public final class RandomTest {
         span = pick(1, 2, 5, 20, 1000);
         lateness = pick(0, 3, 20, 200);
         rush = pick(0, 1, 4, 50);
+        calm = random.nextInt(2) == 0;
+        lanes = pick(1, 2, 4);
     }
 
     public static void main(String[] args) throws ReflectiveOperationException {
@@ -85,6 +93,9 @@ public final class RandomTest {
         }
         while (made < CALLS - 60) {
             Method method = weighed.get(random.nextInt(weighed.size()));
+            if (calm && ENDS.contains(method.getName()) && random.nextInt(20) != 0) {
+                continue;
+            }
             if (!answersAlike(method, arguments(method))) {
                 return tell(run);
             }
@@ -136,6 +147,16 @@ public final class RandomTest {
             int by = random.nextInt(3);
             alike &= answersAlike("open", i, operation, by, size(by), pick(0, 5, 100, 10000));
         }
+        for (int i = 0; i < lanes && random.nextInt(4) != 0; i++) {
+            lane = i;
+            call = "link";
+            alike &= answersAlike("link", i, upTo(3), pick(0, 0, 1, 3, 10), what());
+        }
+        for (int i = 0; i < 8 && random.nextInt(8) != 0; i++) {
+            lane = upTo(lanes - 1);
+            call = "watch";
+            alike &= answersAlike("watch", i, lane, what(), upTo(8) - 2);
+        }
         return alike;
     }
 
@@ -173,7 +194,7 @@ public final class RandomTest {
 
     private int[] arguments(Method method) {
         call = method.getName();
-        lane = upTo(3);
+        lane = random.nextInt(8) == 0 ? upTo(3) : upTo(lanes - 1);
         Parameter[] parameters = method.getParameters();
         int[] all = new int[parameters.length];
         for (int i = 0; i < all.length; i++) {
@@ -228,7 +249,7 @@ public final class RandomTest {
             case "bound":
                 return bound();
             case "what":
-                return upTo(call.equals("state") || call.equals("lane") || call.equals("about") ? 10 : pick(1, 3, 6));
+                return what();
             case "width":
             case "gap":
                 return pick(0, 1, 2, 3, 10, 100, 100000);
@@ -249,6 +270,27 @@ public final class RandomTest {
                 return upTo(255);
             default:
                 return upTo(5);
+        }
+    }
+
+    private int what() {
+        switch (call) {
+            case "lane":
+                return upTo(10);
+            case "state":
+            case "about":
+                return upTo(6);
+            case "event":
+                return upTo(2);
+            case "triple":
+            case "element":
+            case "linked":
+                return upTo(3);
+            case "cost":
+            case "soon":
+                return upTo(1);
+            default:
+                return upTo(Comes.NUMBERS[Math.max(0, model.lane(lane, 0))] - (random.nextInt(10) == 0 ? 0 : 1));
         }
     }
 
