@@ -239,6 +239,7 @@ public final class LaneTest {
         }
         Due.is("nothing done", x.lane(0, 4), 6);
         burstAtEnds();
+        burstOfValuesAtEnds();
     }
 
     private static void burstAtEnds() {
@@ -265,6 +266,28 @@ public final class LaneTest {
         Due.is("by count", x.burst(2, 40, 7, 0), 120);
         Due.is("the oldest went", x.event(2, 0, 2), 40);
         transientMost();
+    }
+
+    private static void burstOfValuesAtEnds() {
+        SlideFold x = Lanes.of(3);
+        Due.is("up to 1000", x.burst(0, 3, 998, 1), 3);
+        Due.is("down to -1000", x.burst(0, 3, -998, -1), 6);
+        Due.is("all the way down", x.burst(0, 3, 1000, -1000), 9);
+        Due.is("all the way up", x.burst(0, 3, -1000, 1000), 12);
+        Due.is("one of 1000, whatever the step", x.burst(0, 1, 1000, 1000), 13);
+        Due.is("one of -1000, whatever the step", x.burst(0, 1, -1000, -1000), 14);
+        Due.are("values", Lanes.values(x, 0), 998, 999, 1000, -998, -999, -1000, 1000, 0, -1000, -1000, 0, 1000, 1000,
+            -1000);
+        Due.is("40 of like value", x.burst(0, 40, 1000, 0), 54);
+        x.open(1, 3, Lanes.COUNT, 1, 0);
+        Due.is("40, of which one is held", x.burst(1, 40, 1, 1), 1);
+        Due.is("the newest", x.event(1, 0, 1), 40);
+        Due.is("the others went", x.lane(1, 8), 39);
+        x = Lanes.timed(3, 0, 100000, 1);
+        Due.is("behind the last time", x.burst(0, 1, 1, 0), -1);
+        x = Lanes.timed(3, 0, 99999, 1);
+        Due.is("at the last time", x.burst(0, 1, 1, 0), 2);
+        Due.is("NEWEST", x.lane(0, 5), 100000);
     }
 
     /** Within a burst more may be held for a while than behind it. */

@@ -11,6 +11,7 @@ public final class SearchTest {
         windows();
         were();
         parted();
+        asManyAsCanBe();
         Due.end("SearchTest");
     }
 
@@ -307,5 +308,63 @@ public final class SearchTest {
             Due.is("what far", x.parted(0, 2, far, 0), Lanes.NOTHING);
             Due.is("lane far", x.parted(far, 2, 0, 0), Lanes.NOTHING);
         }
+    }
+
+    /** 120 of the value 1, at the times 0 .. 119. */
+    private static void asManyAsCanBe() {
+        SlideFold x = Lanes.of(3);
+        for (int i = 0; i < 3; i++) {
+            x.burst(0, 40, 1, 0);
+        }
+        Due.promise(19);
+        Due.is("all", x.reach(0, 1, 120), 120);
+        Due.is("more than all", x.reach(0, 1, 121), -1);
+        Due.promise(20);
+        Due.is("all", x.reachBack(0, 1, 120), 120);
+        Due.is("more than all", x.reachBack(0, 1, 121), -1);
+        Due.promise(45);
+        Due.is("all", x.shortest(0, 1, 120, 0), 120);
+        Due.is("from the first", x.shortest(0, 1, 120, 1), 0);
+        Due.is("more than all", x.shortest(0, 1, 121, 0), -1);
+        Due.promise(46);
+        Due.is("120 * 121 / 2 rows", x.windows(0, 1, 1, 120), 7260);
+        Due.is("one of all", x.windows(0, 1, 120, 120), 1);
+        Due.promise(26);
+        Due.is("the newest two", x.commutes(0, 118), 1);
+        Due.is("the newest one has none next", x.commutes(0, 119), -1);
+        Due.promise(47);
+        Due.is("one more is refused", x.were(0, 119, 1, 1), Lanes.NOTHING);
+        x.alter(0, 119, -5);
+        Due.promise(26);
+        Due.is("the newest two do not: the last sums", x.commutes(0, 118), 0);
+        atTheLastOne(x);
+    }
+
+    /** 119 of the value 1, behind them one of -5. */
+    private static void atTheLastOne(SlideFold x) {
+        Due.promise(23);
+        Due.is("all but the newest", x.without(0, 119, 1), 119);
+        Due.is("all but the oldest", x.without(0, 0, 1), 113);
+        Due.is("all but one more", x.without(0, 120, 1), Lanes.NOTHING);
+        Due.promise(24);
+        Due.is("the newest", x.spare(0, 1), 119);
+        Due.is("two are enough", Lanes.of(3, 1, 0).spare(0, 1), 1);
+        Due.promise(22);
+        Due.is("all", x.peakAt(0, 120, 1), 0);
+        Due.is("one more", x.peakAt(0, 121, 1), -1);
+        Due.is("the first of 119", x.peakAt(0, 119, 1), 0);
+        x.alter(0, 119, 5);
+        Due.is("the newest of 119", x.peakAt(0, 119, 1), 1);
+        Due.is("the newest", x.peakAt(0, 1, 1), 119);
+        Due.promise(21);
+        Due.is("the newest", x.peak(0, 1, 1), 5);
+        Due.is("all", x.peak(0, 120, 1), 124);
+        Due.is("one more", x.peak(0, 121, 1), Lanes.NOTHING);
+        Due.promise(20);
+        Due.is("the newest alone", x.reachBack(0, 1, 5), 1);
+        Due.promise(45);
+        Due.is("the newest alone", x.shortest(0, 1, 5, 1), 119);
+        Due.promise(46);
+        Due.is("the newest alone, or five others", x.windows(0, 1, 5, 5), 116);
     }
 }

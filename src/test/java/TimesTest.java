@@ -7,6 +7,7 @@ public final class TimesTest {
         sessions();
         session();
         longest();
+        asManyAsCanBe();
         Due.end("TimesTest");
     }
 
@@ -142,5 +143,39 @@ public final class TimesTest {
             Due.is("gap far", x.longest(0, far), -1);
             Due.is("lane far", x.longest(far, 4), -1);
         }
+    }
+
+    /** 120 at the times 0 .. 119. */
+    private static void asManyAsCanBe() {
+        SlideFold x = Lanes.of(3);
+        for (int i = 0; i < 3; i++) {
+            x.burst(0, 40, 40 * i, 1);
+        }
+        Due.promise(18);
+        Due.is("all", x.many(0, 0, 119), 120);
+        Due.is("the newest", x.many(0, 119, 119), 1);
+        Due.is("behind the newest", x.many(0, 120, 100000), 0);
+        Due.promise(30);
+        Due.is("each its own", x.panes(0, 1), 120);
+        Due.is("all but the newest", x.panes(0, 119), 2);
+        Due.is("all", x.panes(0, 120), 1);
+        Due.promise(31);
+        Due.is("of like ones the first", x.fullest(0, 1), 0);
+        Due.is("119 and one", x.fullest(0, 119), 0);
+        Due.promise(32);
+        Due.is("each its own", x.sessions(0, 0), 120);
+        Due.is("all", x.sessions(0, 1), 1);
+        Due.promise(33);
+        Due.is("the newest", x.session(0, 0, 119, 1), 119);
+        Due.is("one more", x.session(0, 0, 120, 1), Lanes.NOTHING);
+        Due.is("all", x.session(0, 1, 0, 1), 7140);
+        Due.is("one more", x.session(0, 1, 1, 1), Lanes.NOTHING);
+        Due.promise(34);
+        Due.is("of like ones the oldest", x.longest(0, 0), 0);
+        x.take(0, 60);
+        Due.is("of 60 and 59 the older", x.longest(0, 1), 0);
+        x.take(0, 0);
+        x.take(0, 0);
+        Due.is("of 58 and 59 the newer", x.longest(0, 1), 1);
     }
 }
