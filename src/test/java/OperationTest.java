@@ -351,6 +351,20 @@ public final class OperationTest {
             Due.is("other far", x.same(0, far), -1);
         }
         emptyIsNoIdentity();
+        sameByEach();
+    }
+
+    /** All numbers of each operation, the last one too. */
+    private static void sameByEach() {
+        for (int operation = 0; operation < 10; operation++) {
+            SlideFold x = Lanes.of(operation, 3, -2, 0, 0, 5);
+            x.open(1, operation, Lanes.HAND, 0, 0);
+            Lanes.add(x, 1, 3, -2, 0, 0, 5);
+            Due.promise(29);
+            Due.is("the same values by " + operation, x.same(0, 1), 1);
+            Due.promise(26);
+            Due.is("like ones by " + operation, x.commutes(0, 2), 1);
+        }
     }
 
     /** One zero comes to what a fold may well begin with: an empty lane is not the same. */

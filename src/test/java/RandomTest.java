@@ -28,7 +28,10 @@ public final class RandomTest {
         {0, 0, 0, 0, 0, 1, 1, 0, 0, 2, 2, 0, 0, 0, 0, 0},
         {0, 1, 0, 1, 0, 1, 0, 1, 2, 3, 2, 3, 2, 3, 2, 3},
         {1, 2, 3, 0, 2, 3, 0, 1, 3, 0, 1, 2, 0, 1, 2, 3},
+        {0, 0, 0, 0, 0, 0, 0, 2, 0, 0, 0, 0, 0, 0, 0, 1},
+        {0, 3, 2, 1, 1, 0, 3, 2, 2, 1, 0, 3, 3, 2, 1, 0},
     };
+    private static final int[] BOUNDS = {Integer.MIN_VALUE, Integer.MIN_VALUE + 1, Integer.MAX_VALUE};
     /** How often a call stands among the others; 2 where nothing is said. */
     private static final Map<String, Integer> OFTEN = Map.ofEntries(Map.entry("come", 60), Map.entry("burst", 8),
         Map.entry("leave", 6), Map.entry("until", 4), Map.entry("take", 4), Map.entry("alter", 4), Map.entry("open", 3),
@@ -48,6 +51,8 @@ public final class RandomTest {
     private final int rush;
     /** In some runs lanes, links and watches stand long, and few go. */
     private final boolean calm;
+    /** In some runs the lanes are nearly full from the first on. */
+    private final boolean crowded;
     private final int lanes;
     private int lane;
     private String call;
@@ -59,6 +64,7 @@ public final class RandomTest {
         lateness = pick(0, 3, 20, 200);
         rush = pick(0, 1, 4, 50);
         calm = random.nextInt(2) == 0;
+        crowded = random.nextInt(4) == 0;
         lanes = pick(1, 2, 4);
     }
 
@@ -94,7 +100,7 @@ public final class RandomTest {
         }
         while (made < CALLS - 60) {
             Method method = weighed.get(random.nextInt(weighed.size()));
-            if (calm && ENDS.contains(method.getName()) && random.nextInt(20) != 0) {
+            if ((calm || crowded) && ENDS.contains(method.getName()) && random.nextInt(20) != 0) {
                 continue;
             }
             if (!answersAlike(method, arguments(method))) {
@@ -157,6 +163,11 @@ public final class RandomTest {
             lane = upTo(lanes - 1);
             call = "watch";
             alike &= answersAlike("watch", i, lane, what(), upTo(8) - 2);
+        }
+        for (int i = 0; i < 4 && crowded; i++) {
+            alike &= answersAlike("burst", i, 40, upTo(2 * span) - span, 0);
+            alike &= answersAlike("burst", i, 40, upTo(2 * span) - span, upTo(2) - 1);
+            alike &= answersAlike("burst", i, 37 + upTo(3), upTo(2 * span) - span, 0);
         }
         return alike;
     }
@@ -300,7 +311,7 @@ public final class RandomTest {
             case "burst":
                 return 1 + upTo(pick(2, 8, 39));
             case "leave":
-                return upTo(pick(2, 5, held()));
+                return upTo(crowded ? 3 : pick(2, 5, held()));
             case "cost":
                 return upTo(pick(4, 200));
             default:
@@ -335,10 +346,16 @@ public final class RandomTest {
 
     private int bound() {
         int number = model.total(lane, upTo(3));
-        switch (random.nextInt(4)) {
+        switch (random.nextInt(13)) {
             case 0:
-                return upTo(8) - 4;
+                return BOUNDS[random.nextInt(BOUNDS.length)];
             case 1:
+            case 2:
+            case 3:
+                return upTo(8) - 4;
+            case 4:
+            case 5:
+            case 6:
                 return number / 2;
             default:
                 return number == Model.NOTHING ? upTo(5) : number + upTo(4) - 2;

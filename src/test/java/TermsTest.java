@@ -302,6 +302,7 @@ public final class TermsTest {
         Due.is("taken, it counts", x.lane(0, 5), 50);
         x.leave(0, 1);
         Due.is("gone, they count", x.lane(0, 5), 50);
+        Due.is("none is held: too late all the same", x.come(0, 44, 1), -2);
         Due.is("none is held: late, and behind all", x.come(0, 45, 1), 1);
         Due.is("ahead of none", x.lane(0, 9), 0);
         Due.are("it was added: a flip of one", Lanes.state(x, 0), 1, 0, 0, 0, 0, 1, 0);
@@ -565,5 +566,38 @@ public final class TermsTest {
             Due.is("it comes here", x.come(0, 140, 9), 3);
             Due.is("one more has room there", x.linked(0, 3), byCount ? 2 : 1);
         }
+        fullAndTooLateThere();
+        mostThere();
+    }
+
+    /** Where nothing is given, nothing is lost, however late it would be. */
+    private static void fullAndTooLateThere() {
+        for (int by = 0; by < 3; by++) {
+            SlideFold x = four(RUN);
+            x.open(1, RUN, by, 120, 1000);
+            for (int i = 0; i < 120; i++) {
+                x.come(1, 5000, 1);
+            }
+            x.link(0, 1, 0, 1);
+            Lanes.addTimed(x, 0, 3999, 1, 4001, 1);
+            Due.is("lost there", x.lane(1, 6), by == Lanes.COUNT ? 1 : 0);
+            Due.is("held there", x.lane(1, 4), 120);
+            x.leave(1, 1);
+            x.take(0, 1);
+            x.come(0, 4002, 1);
+            Due.is("with room there it is lost", x.lane(1, 6), by == Lanes.COUNT ? 2 : 1);
+            Due.is("none came by it", x.linked(0, 3), 0);
+        }
+    }
+
+    /** What is given is behind a call there, too. */
+    private static void mostThere() {
+        Due.promise(38);
+        SlideFold x = four(RUN);
+        x.link(0, 1, 0, 1);
+        Lanes.addTimed(x, 0, 1, 1, 2, 1, 3, 1);
+        Due.is("two given", x.lane(1, 10), 2);
+        x.leave(1, 2);
+        Due.is("two at the most", x.lane(1, 10), 2);
     }
 }

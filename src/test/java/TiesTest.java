@@ -7,6 +7,7 @@ public final class TiesTest {
         eightWatches();
         rang();
         watchesEnd();
+        watchesStay();
         link();
         given();
         givenAtEdges();
@@ -158,6 +159,11 @@ public final class TiesTest {
         Due.is("still", x.rang(5), 90);
         x.watch(5, 0, 1, 10);
         Due.is("told anew", x.rang(5), -1);
+        x.come(0, 95, -20);
+        x.take(0, 2);
+        x.take(0, 1);
+        x.alter(0, 0, 20);
+        Due.is("NEWEST, though it was taken", x.rang(5), 95);
         Due.is("watch 8", x.rang(8), -1);
         Due.is("not told", x.rang(1), -1);
         for (int far : Lanes.FAR) {
@@ -192,6 +198,20 @@ public final class TiesTest {
         Due.is("not told again", x.rings(0), -1);
         Lanes.add(x, 1, 7);
         Due.is("the other one's", x.rings(1), 1);
+    }
+
+    /** One that is not opened, as the table does not associate, keeps its watches and links. */
+    private static void watchesStay() {
+        Due.promise(6);
+        SlideFold x = Lanes.of(3, 1);
+        x.open(1, 3, Lanes.HAND, 0, 0);
+        x.table(15, 1);
+        x.table(7, 2);
+        x.watch(0, 0, 1, 5);
+        x.link(0, 1, 5, 0);
+        Due.is("does not associate", x.open(0, 9, 0, 0, 0), -1);
+        Due.is("still told", x.rings(0), 0);
+        Due.is("still linked", x.linked(0, 0), 1);
     }
 
     /** Lanes 0 .. 3 by RUN, by hand. */
