@@ -739,6 +739,7 @@ public final class SlideFold {
         return within(watch, 0, WATCHES - 1) && watches[watch].lane != NONE;
     }
 
+    /** Not by foldPart: from come to the fold's own calls it is eight deep as it is. */
     private void ringWatches(Lane of) {
         if (!isWatched(of.number)) {
             return;
