@@ -47,6 +47,7 @@ public final class SlideFold {
 
     /** How many numbers each operation comes to. */
     private static final int[] NUMBERS = {4, 2, 2, 4, 5, 4, 7, 5, 3, 1};
+    private static final int MOST_NUMBERS = 7;
 
     /** What come answers for an event that is lost. */
     private static final int LOST = -2;
@@ -54,25 +55,17 @@ public final class SlideFold {
     private static final int LINE_MODULUS = 997;
     private static final int STEPS_A_MOVE = 3;
 
-    private final int[] cells;
-    private final int[] sends;
     private final Lane[] lanes;
     private final Lane[] boxes;
     private final Watch[] watches;
     private final Link[] links;
     private final Fold fold;
-    private final Fold otherFold;
     private final Flip trial;
     /** parted: the most that the events from one on come to in so many rows, and where the second of these begins. */
     private final int[][] partedSum;
     private final int[][] partedNext;
 
     public SlideFold() {
-        cells = new int[CELLS];
-        sends = new int[LETTERS];
-        for (int i = 0; i < LETTERS; i++) {
-            sends[i] = TO_ITSELF;
-        }
         lanes = new Lane[LANES];
         links = new Link[LANES];
         for (int i = 0; i < LANES; i++) {
@@ -87,8 +80,7 @@ public final class SlideFold {
         for (int i = 0; i < WATCHES; i++) {
             watches[i] = new Watch();
         }
-        fold = new Fold(cells, sends);
-        otherFold = new Fold(cells, sends);
+        fold = new Fold();
         trial = new Flip();
         partedSum = new int[MOST_ROWS + 1][MOST_HELD + 1];
         partedNext = new int[MOST_ROWS + 1][MOST_HELD + 1];
@@ -100,7 +92,7 @@ public final class SlideFold {
         if (!within(cell, 0, CELLS - 1) || !within(element, 0, ELEMENTS - 1) || isUsed(BY_TABLE)) {
             return false;
         }
-        cells[cell] = element;
+        fold.cells[cell] = element;
         return true;
     }
 
@@ -108,7 +100,7 @@ public final class SlideFold {
         if (!within(letter, 0, LETTERS - 1) || !within(sends, 0, MOST_SENDS) || isUsed(BY_LETTERS)) {
             return false;
         }
-        this.sends[letter] = sends;
+        fold.sends[letter] = sends;
         return true;
     }
 
@@ -150,7 +142,7 @@ public final class SlideFold {
     }
 
     private int product(int x, int y) {
-        return cells[ELEMENTS * x + y];
+        return fold.cells[ELEMENTS * x + y];
     }
 
     private boolean associates(int x, int y, int z) {
@@ -529,12 +521,13 @@ public final class SlideFold {
             return NONE;
         }
         foldPart(of, 0, of.held);
-        otherFold.begin(of.operation);
+        fold.noteNumbers();
+        fold.begin(of.operation);
         for (int i = 0; i < of.held; i++) {
             int from = i == event ? event + 1 : i == event + 1 ? event : i;
-            otherFold.append(of.values[from]);
+            fold.append(of.values[from]);
         }
-        return fold.isLike(otherFold) ? 1 : 0;
+        return fold.isAsNoted() ? 1 : 0;
     }
 
     /** As the operation associates, each way of combining comes to the same. */
@@ -582,11 +575,9 @@ public final class SlideFold {
             return NONE;
         }
         foldPart(first, 0, first.held);
-        otherFold.begin(second.operation);
-        for (int i = 0; i < second.held; i++) {
-            otherFold.append(second.values[i]);
-        }
-        return fold.isLike(otherFold) ? 1 : 0;
+        fold.noteNumbers();
+        foldPart(second, 0, second.held);
+        return fold.isAsNoted() ? 1 : 0;
     }
 
     // ---- PANES and SESSIONS
@@ -1071,20 +1062,27 @@ public final class SlideFold {
         }
     }
 
-    /** What the values appended so far come to by an operation. */
+    /**
+     * What the values appended so far come to by an operation. The TABLE and the LETTERS stand here, as nothing else
+     * goes by them.
+     */
     private static final class Fold {
         private final int[] cells;
         private final int[] sends;
         private final int[] numbers;
+        private final int[] noted;
+        private int notedCount;
         private int operation;
         private int count;
         /** STEPS: how many of the last ones have none that is less than the one ahead. */
         private int rising;
 
-        Fold(int[] cells, int[] sends) {
-            this.cells = cells;
-            this.sends = sends;
-            numbers = new int[7];
+        Fold() {
+            cells = new int[CELLS];
+            sends = new int[LETTERS];
+            Arrays.fill(sends, TO_ITSELF);
+            numbers = new int[MOST_NUMBERS];
+            noted = new int[MOST_NUMBERS];
         }
 
         /** Sets what no value comes to, in so far as append builds on it. */
@@ -1115,13 +1113,18 @@ public final class SlideFold {
             return number != NOTHING && number >= bound;
         }
 
-        /** Only for folds by the same operation. */
-        boolean isLike(Fold other) {
-            if (count == 0 || other.count == 0) {
-                return count == other.count;
+        /** Keeps the numbers, for others by the same operation to be held against them. */
+        void noteNumbers() {
+            System.arraycopy(numbers, 0, noted, 0, MOST_NUMBERS);
+            notedCount = count;
+        }
+
+        boolean isAsNoted() {
+            if (count == 0 || notedCount == 0) {
+                return count == notedCount;
             }
             for (int i = 0; i < NUMBERS[operation]; i++) {
-                if (numbers[i] != other.numbers[i]) {
+                if (numbers[i] != noted[i]) {
                     return false;
                 }
             }

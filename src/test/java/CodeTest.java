@@ -15,6 +15,7 @@ import com.sun.source.tree.TryTree;
 import com.sun.source.tree.TypeCastTree;
 import com.sun.source.tree.VariableTree;
 import com.sun.source.util.JavacTask;
+import com.sun.source.util.TreePath;
 import com.sun.source.util.TreePathScanner;
 import com.sun.source.util.Trees;
 import java.io.IOException;
@@ -156,6 +157,12 @@ public final class CodeTest {
         public Void visitNewClass(NewClassTree tree, Void none) {
             rule("12: here all is made in constructors", tree, isConstructor());
             rule("2: no anonymous class", tree, tree.getClassBody() == null);
+            for (Tree argument : tree.getArguments()) {
+                Element given = trees.getElement(TreePath.getPath(unit, argument));
+                rule("12: a constructor hands out nothing of its object", argument,
+                    given == null || given.getKind() != ElementKind.FIELD || given.getModifiers().contains(
+                        Modifier.STATIC));
+            }
             calls.computeIfAbsent(method, m -> new HashSet<>()).add(element());
             return super.visitNewClass(tree, none);
         }
